@@ -33,6 +33,11 @@ public final class CarbonCopies {
     private static final int RUB_TOLD = 20000;
     private static final int DYING_TOLD = 30000;
     private static final int COPY_SETS = 64;
+    private static final int ITEM_PERSON = 0;
+    private static final int ITEM_PRESS = 1;
+    private static final int ITEM_RUB = 2;
+    private static final int ITEM_DYING = 3;
+    private static final int ITEM_LEAST = 4;
 
     private final Shelf[] shelves = new Shelf[SHELVES];
     private final int[] refusals = new int[8];
@@ -308,7 +313,7 @@ public final class CarbonCopies {
     public int which(int s, int n, int e, int i) {
         Shelf shelf = shelfAt(s);
         int refusal = refusalOfTold(shelf, n, e);
-        if (refusal != 0) {
+        if (shelf == null || refusal != 0) {
             return refuse(refusal);
         }
         int many = truth.findFits(shelf, n, e, fits);
@@ -324,7 +329,7 @@ public final class CarbonCopies {
     public int next(int s, int n, int e) {
         Shelf shelf = shelfAt(s);
         int refusal = refusalOfTold(shelf, n, e);
-        if (refusal != 0) {
+        if (shelf == null || refusal != 0) {
             return refuseLess(refusal, 10);
         }
         int many = truth.findFits(shelf, n, e, fits);
@@ -416,7 +421,7 @@ public final class CarbonCopies {
     public int judge(int s, int n) {
         Shelf shelf = shelfAt(s);
         int refusal = refusalOfLife(shelf, n, true);
-        if (refusal != 0) {
+        if (shelf == null || refusal != 0) {
             return refuseLess(refusal, 10);
         }
         return truth.firstWrong(shelf, n);
@@ -425,7 +430,7 @@ public final class CarbonCopies {
     public int behind(int s, int n, int what) {
         Shelf shelf = shelfAt(s);
         int refusal = refusalOfLife(shelf, n, what >= 0 && what <= 2);
-        if (refusal != 0) {
+        if (shelf == null || refusal != 0) {
             return refuse(refusal);
         }
         if (truth.firstWrong(shelf, n) != NONE) {
@@ -448,7 +453,7 @@ public final class CarbonCopies {
     public int done(int s, int n) {
         Shelf shelf = shelfAt(s);
         int refusal = refusalOfLife(shelf, n, true);
-        if (refusal != 0) {
+        if (shelf == null || refusal != 0) {
             return refuse(refusal);
         }
         if (truth.firstWrong(shelf, n) != NONE) {
@@ -733,25 +738,27 @@ public final class CarbonCopies {
             ours[copy] = one.hasBits(copy, truth.least);
             theirs[copy] = other.hasBits(copy, truth.least);
         }
+        int most = 0;
         Arrays.fill(bestBelow[COPIES], 0);
-        for (int copy = COPIES - 1; copy >= one.out && copy >= 0; copy--) {
+        for (int copy = COPIES - 1; copy >= 0 && one.isLeft(copy); copy--) {
             for (int given = 0; given < COPY_SETS; given++) {
-                bestBelow[copy][given] = bestFrom(copy, given, other.out);
+                bestBelow[copy][given] = bestFrom(copy, given, other);
             }
+            most = bestBelow[copy][0];
         }
         int given = 0;
-        for (int copy = one.out; copy < COPIES; copy++) {
-            int partner = firstBest(copy, given, other.out);
+        for (int copy = 0; copy < COPIES; copy++) {
+            int partner = one.isLeft(copy) ? firstBest(copy, given, other) : NONE;
             partners[copy] = partner;
             given |= partner == NONE ? 0 : 1 << partner;
         }
-        return bestBelow[one.out][0];
+        return most;
     }
 
-    private int bestFrom(int copy, int given, int firstLeft) {
+    private int bestFrom(int copy, int given, Person other) {
         int most = bestBelow[copy + 1][given];
-        for (int partner = firstLeft; partner < COPIES; partner++) {
-            if ((given >> partner & 1) == 0) {
+        for (int partner = 0; partner < COPIES; partner++) {
+            if (other.isLeft(partner) && (given >> partner & 1) == 0) {
                 most = Math.max(most, bestWith(copy, given, partner));
             }
         }
@@ -764,13 +771,13 @@ public final class CarbonCopies {
     }
 
     /** Nobody comes first: of rows that are as good, the one with NONE is less. */
-    private int firstBest(int copy, int given, int firstLeft) {
+    private int firstBest(int copy, int given, Person other) {
         int most = bestBelow[copy][given];
         if (bestBelow[copy + 1][given] == most) {
             return NONE;
         }
-        for (int partner = firstLeft; partner < COPIES; partner++) {
-            if ((given >> partner & 1) == 0 && bestWith(copy, given, partner) == most) {
+        for (int partner = 0; partner < COPIES; partner++) {
+            if (other.isLeft(partner) && (given >> partner & 1) == 0 && bestWith(copy, given, partner) == most) {
                 return partner;
             }
         }
@@ -976,7 +983,7 @@ public final class CarbonCopies {
 
         final int pressWith(int deed, int f) {
             int many = 0;
-            for (int copy = out; copy < COPIES && isCopy(copy) && isDeed(deed); copy++) {
+            for (int copy = Math.max(0, out); copy < COPIES && isDeed(deed); copy++) {
                 int got = gotBy(copy, f);
                 if (got > 0) {
                     int at = copy * DEEDS + deed;
@@ -1073,12 +1080,10 @@ public final class CarbonCopies {
             super(kind, number, steps);
         }
 
-        @Override
         int lossAt(int sheet) {
             return sheet == 1 ? 0 : super.lossAt(sheet);
         }
 
-        @Override
         int lives(int x) {
             steps.began(20);
             return super.lives(x) + a;
@@ -1090,12 +1095,10 @@ public final class CarbonCopies {
             super(kind, number, steps);
         }
 
-        @Override
         int lossAt(int sheet) {
             return super.lossAt(sheet) + 2;
         }
 
-        @Override
         int goes(int x) {
             steps.began(30);
             return super.goes(x) * 3;
@@ -1107,13 +1110,11 @@ public final class CarbonCopies {
             super(kind, number, steps);
         }
 
-        @Override
         int lossAt(int sheet) {
             int loss = super.lossAt(sheet);
             return sheet == SHEETS ? 2 * loss : loss;
         }
 
-        @Override
         int goes(int x) {
             steps.began(40);
             return super.goes(x + 1);
@@ -1125,18 +1126,15 @@ public final class CarbonCopies {
             super(kind, number, steps);
         }
 
-        @Override
         int lossAt(int sheet) {
             return super.lossAt(sheet) / 2;
         }
 
-        @Override
         int looks(int x) {
             steps.began(50);
             return -super.looks(x);
         }
 
-        @Override
         int lives(int x) {
             steps.began(51);
             return super.lives(x) - number;
@@ -1148,12 +1146,10 @@ public final class CarbonCopies {
             super(kind, number, steps);
         }
 
-        @Override
         int lossAt(int sheet) {
             return super.lossAt(sheet) + (a & 1);
         }
 
-        @Override
         int looks(int x) {
             steps.began(60);
             return super.looks(x) ^ 5;
@@ -1165,23 +1161,19 @@ public final class CarbonCopies {
             super(kind, number, steps);
         }
 
-        @Override
         int lossAt(int sheet) {
             return super.lossAt(sheet) + (sheet == 3 ? a : 0);
         }
 
-        @Override
         int driftOver(int sheets) {
             return a * sheets + (sheets >= 3 ? 1 : 0);
         }
 
-        @Override
         int lives(int x) {
             steps.began(70);
             return super.lives(x) * 2;
         }
 
-        @Override
         int goes(int x) {
             steps.began(71);
             return super.goes(x - a);
@@ -1211,40 +1203,48 @@ public final class CarbonCopies {
 
         /** Those of an earlier use are used again if they are of the kind, as room for objects is short. */
         private Person placeFor(int number, int kind) {
-            Person one = persons[number];
-            if (one == null || one.kind != kind) {
-                one = made(kind, number);
-                persons[number] = one;
+            if (number < 0 || number >= PERSONS) {
+                return null;
             }
+            Person one = persons[number];
+            if (one != null && one.kind == kind) {
+                return one;
+            }
+            switch (kind) {
+                case 1:
+                    one = new Top(kind, number, steps);
+                    break;
+                case 2:
+                    one = new Faint(kind, number, steps);
+                    break;
+                case 3:
+                    one = new Violet(kind, number, steps);
+                    break;
+                case 4:
+                    one = new Hard(kind, number, steps);
+                    break;
+                case 5:
+                    one = new Blue(kind, number, steps);
+                    break;
+                case 6:
+                    one = new Creased(kind, number, steps);
+                    break;
+                default:
+                    one = new Person(kind, number, steps);
+                    break;
+            }
+            persons[number] = one;
             return one;
         }
 
-        private Person made(int kind, int number) {
-            switch (kind) {
-                case 1:
-                    return new Top(kind, number, steps);
-                case 2:
-                    return new Faint(kind, number, steps);
-                case 3:
-                    return new Violet(kind, number, steps);
-                case 4:
-                    return new Hard(kind, number, steps);
-                case 5:
-                    return new Blue(kind, number, steps);
-                case 6:
-                    return new Creased(kind, number, steps);
-                default:
-                    return new Person(kind, number, steps);
-            }
-        }
-
         int add(int kind, int a, int thick) {
-            if (!hasRoom()) {
+            Person one = placeFor(count, kind);
+            if (one == null) {
                 return NONE;
             }
-            placeFor(count, kind).begin(a, thick);
+            one.begin(a, thick);
             count++;
-            return count - 1;
+            return one.number;
         }
 
         void takeFrom(Land other) {
@@ -1253,8 +1253,9 @@ public final class CarbonCopies {
             count = 0;
             for (int i = 0; i < other.count && i < PERSONS; i++) {
                 Person one = other.personAt(i);
-                if (one != null) {
-                    placeFor(i, one.kind).takeFrom(one);
+                Person mine = one == null ? null : placeFor(i, one.kind);
+                if (mine != null) {
+                    mine.takeFrom(one);
                     count = i + 1;
                 }
             }
@@ -1412,24 +1413,36 @@ public final class CarbonCopies {
     /** Reads a text into a land, which is spoilt if there is a fault. */
     private static final class Reader {
         final Land land;
-        Shelf text = null;
+        final int[] letters = new int[LONGEST_ROW];
+        int size = 0;
         int place = 0;
         int fault = NONE;
         int numberPlace = 0;
+        int item = NONE;
+        int first = 0;
+        int second = 0;
+        int third = 0;
 
         Reader(Land land) {
             this.land = land;
         }
 
         int readFrom(Shelf shelf) {
-            text = shelf;
+            size = Math.min(shelf.size, LONGEST_ROW);
+            for (int i = 0; i < size; i++) {
+                letters[i] = shelf.intAt(i);
+            }
             place = 0;
             fault = NONE;
             int items = 0;
             for (int i = 0; i <= LONGEST_ROW; i++) {
                 readItem();
+                if (fault != NONE) {
+                    return items;
+                }
+                tellItem();
                 items++;
-                if (fault != NONE || place >= text.size) {
+                if (place >= size) {
                     return items;
                 }
                 readLetter(';');
@@ -1437,33 +1450,9 @@ public final class CarbonCopies {
             return items;
         }
 
-        private int letterHere() {
-            return text == null ? NONE : letterAt(place);
-        }
-
-        private int letterAt(int i) {
-            return text != null && text.hasElement(i) ? text.intAt(i) : NONE;
-        }
-
-        private void readLetter(int letter) {
-            if (fault != NONE) {
-                return;
-            }
-            if (letterHere() != letter) {
-                fault = place;
-                return;
-            }
-            place++;
-        }
-
-        private void readWord(String word) {
-            for (int i = 0; i < word.length(); i++) {
-                readLetter(word.charAt(i));
-            }
-        }
-
         private void readItem() {
-            switch (letterHere()) {
+            int letter = letterAt(place);
+            switch (letter) {
                 case 'p':
                     if (letterAt(place + 1) == 'r') {
                         readPress();
@@ -1486,60 +1475,76 @@ public final class CarbonCopies {
             }
         }
 
-        private void readPerson() {
-            int start = place;
-            readWord("person");
-            if (!land.hasRoom()) {
-                faultAt(start);
-            }
-            int kind = readNumber(0, KINDS - 1);
-            int a = readNumber(0, MOST_A);
-            int thick = readNumber(1, MOST_THICK);
-            if (fault == NONE) {
-                land.add(kind, a, thick);
-            }
-        }
-
-        private void readPress() {
-            readWord("press");
-            Person one = land.personAt(readNumber(0, land.count - 1));
-            if (one != null && one.isGone()) {
-                faultAt(numberPlace);
-            }
-            int deed = readNumber(0, DEEDS - 1);
-            int f = readNumber(1, MOST);
-            if (fault == NONE && one != null) {
-                one.pressWith(deed, f);
-            }
-        }
-
-        private void readRub() {
-            readWord("rub");
-            Person one = land.personAt(readNumber(0, land.count - 1));
-            int copy = readNumber(one == null ? 0 : one.out, COPIES - 1);
-            int deed = readNumber(0, DEEDS - 1);
-            if (fault == NONE && one != null) {
-                one.rubOn(copy, deed);
-            }
-        }
-
-        private void readDying() {
-            readWord("dies");
-            Person one = land.personAt(readNumber(0, land.count - 1));
-            if (one != null && one.isGone()) {
-                faultAt(numberPlace);
-            }
-            if (fault == NONE && one != null) {
+        private void tellItem() {
+            Person one = land.personAt(first);
+            if (item == ITEM_PERSON) {
+                land.add(first, second, third);
+            } else if (item == ITEM_LEAST) {
+                land.least = first;
+            } else if (one == null) {
+                return;
+            } else if (item == ITEM_PRESS) {
+                one.pressWith(second, third);
+            } else if (item == ITEM_RUB) {
+                one.rubOn(second, third);
+            } else {
                 one.out++;
             }
         }
 
-        private void readLeast() {
-            readWord("least");
-            int least = readNumber(1, MOST);
-            if (fault == NONE) {
-                land.least = least;
+        private void readPerson() {
+            int start = place;
+            item = ITEM_PERSON;
+            readWord("person");
+            if (!land.hasRoom()) {
+                faultAt(start);
             }
+            first = readNumber(0, KINDS - 1);
+            second = readNumber(0, MOST_A);
+            third = readNumber(1, MOST_THICK);
+        }
+
+        private void readPress() {
+            item = ITEM_PRESS;
+            readWord("press");
+            first = readNumber(0, land.count - 1);
+            if (outOf(first) >= COPIES) {
+                faultAt(numberPlace);
+            }
+            second = readNumber(0, DEEDS - 1);
+            third = readNumber(1, MOST);
+        }
+
+        private void readRub() {
+            item = ITEM_RUB;
+            readWord("rub");
+            first = readNumber(0, land.count - 1);
+            second = readNumber(outOf(first), COPIES - 1);
+            third = readNumber(0, DEEDS - 1);
+        }
+
+        private void readDying() {
+            item = ITEM_DYING;
+            readWord("dies");
+            first = readNumber(0, land.count - 1);
+            if (outOf(first) >= COPIES) {
+                faultAt(numberPlace);
+            }
+        }
+
+        private void readLeast() {
+            item = ITEM_LEAST;
+            readWord("least");
+            first = readNumber(1, MOST);
+        }
+
+        private int outOf(int number) {
+            Person one = land.personAt(number);
+            return one == null ? COPIES : one.out;
+        }
+
+        private int letterAt(int i) {
+            return i >= 0 && i < size && i < LONGEST_ROW ? letters[i] : NONE;
         }
 
         /** The first fault stays: what comes behind it is not read. */
@@ -1549,21 +1554,35 @@ public final class CarbonCopies {
             }
         }
 
+        private void readLetter(int letter) {
+            if (fault != NONE) {
+                return;
+            }
+            if (letterAt(place) != letter) {
+                fault = place;
+                return;
+            }
+            place++;
+        }
+
+        private void readWord(String word) {
+            for (int i = 0; i < word.length(); i++) {
+                readLetter(word.charAt(i));
+            }
+        }
+
         private int readNumber(int from, int to) {
             readLetter(' ');
-            if (fault != NONE) {
+            int value = digitHere();
+            if (fault != NONE || value == NONE) {
+                faultAt(place);
                 return NONE;
             }
             numberPlace = place;
-            int value = digitHere();
-            if (value == NONE) {
-                fault = place;
-                return NONE;
-            }
             place++;
-            int second = digitHere();
-            if (second != NONE) {
-                value = 10 * value + second;
+            int last = digitHere();
+            if (last != NONE) {
+                value = 10 * value + last;
                 place++;
             }
             if (value < from || value > to) {
@@ -1574,7 +1593,7 @@ public final class CarbonCopies {
         }
 
         private int digitHere() {
-            int letter = letterHere();
+            int letter = letterAt(place);
             return letter >= '0' && letter <= '9' ? letter - '0' : NONE;
         }
     }
