@@ -242,11 +242,11 @@ public final class LifeTest {
                 Check.due("seed", x.status(5), drawn);
                 Check.due("strengths", x.status(3), y.status(3));
                 Check.due("smears", x.status(4), y.status(4));
-                for (int p = 0; p < persons; p++) {
-                    Check.dueAll("drifts", Check.drifts(x, p), Check.drifts(y, p));
-                    Check.due("out", x.personOf(p, 3), y.personOf(p, 3));
-                    Check.due("read", x.personOf(p, 4), y.personOf(p, 4));
-                }
+            }
+            for (int p = 0; p < persons; p++) {
+                Check.dueAll("drifts", Check.drifts(x, p), Check.drifts(y, p));
+                Check.due("out", x.personOf(p, 3), y.personOf(p, 3));
+                Check.due("read", x.personOf(p, 4), y.personOf(p, 4));
             }
             Check.due("years -6", x.years(0), -6);
             Check.due("years -6", x.years(101), -6);

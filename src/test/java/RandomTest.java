@@ -7,8 +7,10 @@ import java.util.List;
 
 /** Runs of calls, the same ones each time, that the class and Model are to answer alike; none may throw. */
 public final class RandomTest {
-    private static final int RUNS = 1500;
+    private static final int RUNS = 2500;
+    /** What later calls answer is free, so those that compare at last are among them. */
     private static final int CALLS = 512;
+    private static final int AT_LAST = 91;
 
     private static final List<Method> CLASS_METHODS = new ArrayList<>();
     private static final List<Method> MODEL_METHODS = new ArrayList<>();
@@ -50,7 +52,7 @@ public final class RandomTest {
         for (int i = 0; i < starters; i++) {
             call("person", below(7), below(10), 1 + below(below(3) == 0 ? 20 : 8));
         }
-        while (made < CALLS - 45) {
+        while (made < CALLS - AT_LAST - 10) {
             int what = below(40);
             if (what == 0) {
                 tellText();
@@ -67,6 +69,7 @@ public final class RandomTest {
             }
         }
         compareAll();
+        Check.due(latest + ", no more calls than an object is used for", made <= CALLS ? 1 : 0, 1);
     }
 
     private static void anyCall(Method method) throws ReflectiveOperationException {
@@ -106,7 +109,7 @@ public final class RandomTest {
 
     private static void tellRow(int sort, long[] values, String reader) throws ReflectiveOperationException {
         int s = below(8);
-        if (made + values.length + 3 > CALLS) {
+        if (made + values.length + 5 > CALLS - AT_LAST) {
             return;
         }
         call("row", s, sort, values.length);
@@ -183,7 +186,7 @@ public final class RandomTest {
 
     private static void tellLife() throws ReflectiveOperationException {
         long[] values = new long[below(42)];
-        int persons = Math.max(1, x.status(0) + (below(10) == 0 ? 1 : 0));
+        int persons = Math.max(1, (int) call("status", 0) + (below(10) == 0 ? 1 : 0));
         for (int i = 0; i < values.length; i++) {
             int what = below(8);
             int person = below(persons);
@@ -204,14 +207,13 @@ public final class RandomTest {
         int person = below(6);
         int copy = below(6);
         for (int i = 0; i < values.length; i++) {
-            int strength = x.strength(person, copy, i);
-            y.strength(person, copy, i);
+            int strength = (int) call("strength", person, copy, i);
             values[i] = below(6) == 0 ? below(99) : strength + below(3) - 1;
         }
         tellRow(below(4), values, "strengths");
     }
 
-    private static void call(String name, long... args) throws ReflectiveOperationException {
+    private static long call(String name, long... args) throws ReflectiveOperationException {
         for (int m = 0; m < CLASS_METHODS.size(); m++) {
             Method method = CLASS_METHODS.get(m);
             if (!method.getName().equals(name)) {
@@ -232,7 +234,9 @@ public final class RandomTest {
             } catch (InvocationTargetException thrown) {
                 Check.due(latest + ", " + told + " threw " + thrown.getCause(), 0, 1);
             }
+            return want;
         }
+        throw new IllegalStateException("no such call: " + name);
     }
 
     private static void compareAll() throws ReflectiveOperationException {
@@ -240,14 +244,14 @@ public final class RandomTest {
             call("status", what);
         }
         for (int person = 0; person < 6; person++) {
+            for (int what = 3; what <= 5; what++) {
+                call("personOf", person, what);
+            }
+            call("all", person);
+            call("straight", person, 0);
+            call("straight", person, 1);
             for (int copy = 0; copy < 6; copy++) {
-                Check.due(latest + ", drift at last", x.drift(person, copy), y.drift(person, copy));
-                Check.due(latest + ", has at last", x.copyOf(person, copy, 1), y.copyOf(person, copy, 1));
-                Check.due(latest + ", smears at last", x.copyOf(person, copy, 0), y.copyOf(person, copy, 0));
-                for (int deed = 0; deed < 8; deed++) {
-                    Check.due(latest + ", strength at last", x.strength(person, copy, deed),
-                        y.strength(person, copy, deed));
-                }
+                call("copyOf", person, copy, 1);
             }
         }
     }

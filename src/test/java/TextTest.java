@@ -71,29 +71,28 @@ public final class TextTest {
     }
 
     private static void words() {
-        CarbonCopies x = land();
         String[] items = {"person 1 2 3", "press 0 1 2", "rub 0 1 2", "dies 0", "least 5"};
         for (String item : items) {
             for (int i = 0; i < item.length(); i++) {
-                faults(x, item.substring(0, i), i);
-                faults(x, "least 7;" + item.substring(0, i) + "#", 8 + i);
+                faults(land(), item.substring(0, i), i);
+                faults(land(), "least 7;" + item.substring(0, i) + "#", 8 + i);
             }
-            faults(x, item + ";", item.length() + 1);
-            faults(x, item + "; " + item, item.length() + 1);
-            faults(x, item + " ", item.length());
-            faults(x, item + ";;", item.length() + 1);
+            faults(land(), item + ";", item.length() + 1);
+            faults(land(), item + "; " + item, item.length() + 1);
+            faults(land(), item + " ", item.length());
+            faults(land(), item + ";;", item.length() + 1);
         }
-        faults(x, "", 0);
-        faults(x, ";", 0);
-        faults(x, " dies 0", 0);
-        faults(x, "Person 0 0 1", 0);
-        faults(x, "pub 0 0 0", 1);
-        faults(x, "prson 0 0 1", 2);
-        faults(x, "peress 0 0 1", 3);
-        faults(x, "dies  0", 5);
-        faults(x, "dies\t0", 4);
-        faults(x, "dies0", 4);
-        faults(x, "least 5 6", 7);
+        faults(land(), "", 0);
+        faults(land(), ";", 0);
+        faults(land(), " dies 0", 0);
+        faults(land(), "Person 0 0 1", 0);
+        faults(land(), "pub 0 0 0", 1);
+        faults(land(), "prson 0 0 1", 2);
+        faults(land(), "peress 0 0 1", 3);
+        faults(land(), "dies  0", 5);
+        faults(land(), "dies\t0", 4);
+        faults(land(), "dies0", 4);
+        faults(land(), "least 5 6", 7);
     }
 
     private static void numbers() {
