@@ -135,6 +135,10 @@ public final class FittingEdgeTest {
         due("DEED n, the first of those not told", 1, Run.having(0, 2, 2, 2, 0, 0, 0), "row(0, 0, 8)", "next(0, 1, 0)");
         due("DEED n, n 7: the last", 7, Run.having(0, 0, 0, 0, 0, 0, 0), "row(0, 0, 8)", "next(0, 7, 0)");
         due("the last DEED is best", 7, Run.having(0, 128, 128, 128, 0, 0, 0), "row(0, 0, 8)", "next(0, 1, 0)");
+        due("of longs the lowest 32 bits", 5, Run.having(0, 32, 32, 32, 0, 0, 0), "row(0, 3, 1)",
+            "set(0, 0, " + (7L << 32) + ")", "next(0, 1, 0)");
+        due("of longs all lowest 32 bits", -1, Run.having(0, 32, 32, 32, 0, 0, 0), "row(0, 3, 1)",
+            "set(0, 0, " + (1L << 31) + ")", "next(0, 1, 20)");
         due("not one of those told", 2, new String[] {"person(0, 0, 5)", "press(0, 1, 20)", "row(0, 0, 8)"},
             "next(0, 2, 20)");
         due("two FIT, the fewest: the first DEED", 1, Run.having(0, 0, 0, 0, 0, 0, 0), "dies(0) x4", "row(0, 0, 8)",

@@ -94,6 +94,11 @@ public final class LifeEdgeTest {
         wrong("P 6", SIX, 30006);
         due("DYING of P 5 in it", 6, SIX, "ints 0: 30005, 30005, 30005, 30005, 30005, 30005, 15001", "judge(0, 7)");
         due("DYING of P 5 in it", 1, SIX, "ints 0: 30005, 25000", "judge(0, 2)");
+        wrong("P 5 all dead", Run.join(SIX, "dies(5) x6"), 15001);
+        wrong("P 5 all dead", Run.join(SIX, "dies(5) x6"), 30005);
+        wrong("P 5, of five PERSONS", new String[] {"person(4, 0, 1) x5"}, 15001);
+        wrong("J of P 5 dead", Run.join(SIX, "dies(5) x3"), 25200);
+        canBe("J of P 5 not dead", Run.join(SIX, "dies(5) x3"), 25300);
         due("P 5 in truth", 9, SIX, "ints 0: 15209", "done(0, 1)", "strength(5, 0, 2)");
         due("P 5 in truth, rubbed", 1, SIX, "ints 0: 25300", "done(0, 1)", "copyOf(5, 3, 0)");
         due("P 5 in truth, dying", 1, SIX, "ints 0: 30005", "done(0, 1)", "personOf(5, 3)");
@@ -222,6 +227,9 @@ public final class LifeEdgeTest {
         due("it can't be: nothing of it is", 0, bad, "done(0, 4)", "status(4)");
         due("it can't be: nothing of it is", 11, bad, "done(0, 4)", "status(1)");
         due("as far as it can be", 12, bad, "done(0, 3)");
+        due("in truth: a PRESS, the least of all", 1, LAND, "ints 0: 10001", "done(0, 1)", "strength(0, 0, 0)");
+        due("in truth: a RUB, the least of all", 1, LAND, "ints 0: 20000", "done(0, 1)", "copyOf(0, 0, 0)");
+        due("in truth: DYING, the least of all", 1, LAND, "ints 0: 30000", "done(0, 1)", "personOf(0, 3)");
         due("in truth: DRIFT too", 5, LAND, "ints 0: 10050", "done(0, 1)", "drift(0, 5)");
         due("in truth: as things stand then", -6, LAND, "ints 0: 30001", "done(0, 1)", "done(0, 1)");
         due("all are dead", 18, LAND, "ints 0: 30001, 30000, 30000, 30000, 30000, 30000, 30000", "done(0, 7)");

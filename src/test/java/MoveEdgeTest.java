@@ -13,6 +13,7 @@ public final class MoveEdgeTest {
         notOfTheImage();
         imageOfNobody();
         restoredShelves();
+        restoredKinds();
         restoredAnew();
         statuses();
         refusalsCounted();
@@ -176,6 +177,20 @@ public final class MoveEdgeTest {
         due("SHELVES that hold NOTHING hold NOTHING", -1, other, "holds(0)");
         due("ROWS stay", 103, Run.join(other, "row(4, 3, 3)"), "restore()", "holds(4)");
         due("the last number", 5, new String[] {"person(0, 0, 1) x6", "image()", "show(0, 5)"}, "restore()", "holds(0)");
+    }
+
+    /** Who comes where one of another KIND was of the same number is of his own. */
+    private static void restoredKinds() {
+        for (int kind = 0; kind <= 6; kind++) {
+            for (int next = 0; next <= 6; next++) {
+                String[] land = {"image()", "person(" + kind + ", 3, 7)", "restore()", "person(" + next + ", 3, 7)"};
+                String[] alone = {"person(" + next + ", 3, 7)"};
+                due("KIND " + next + " where " + kind + " was", next, land, "personOf(0, 0)");
+                due("KIND " + next + " where " + kind + " was", Run.of(alone).answer("loss", 0, 1), land, "loss(0, 1)");
+                due("KIND " + next + " where " + kind + " was", Run.of(alone).answer("act", 0, 2, 5), land,
+                    "act(0, 2, 5)");
+            }
+        }
     }
 
     /** Who comes where another was of the same number has nothing of him. */

@@ -273,7 +273,9 @@ public final class ShelfEdgeTest {
         Run.allRefused("no such KIND", -1, "says(1, -1)", "says(1, 7)", "says(7, " + MAX + ")");
         Run.allRefused("a ROW where a PERSON is wanted", -2, "says(0, 0)", "says(3, 6)");
         Run.allRefused("a PERSON of another KIND", -2, "says(1, 1)", "says(1, 6)", "says(7, 2)", "says(7, 5)");
-        Run.refused("NOTHING", -3, "says(2, 0)");
+        for (int kind = 0; kind <= 6; kind++) {
+            Run.refused("NOTHING", -3, "says(2, " + kind + ")");
+        }
         Run.refused("-1 before -2", -1, "says(0, 7)");
         Run.refused("-1 before -2", -1, "says(1, -1)");
         Run.refused("-1 before -3", -1, "says(2, 7)");

@@ -94,7 +94,10 @@ public final class TellingEdgeTest {
         due("JUST, that below gets as much: NONE", -1, new String[] {"person(1, 0, 10)"}, "force(0, 0, 0, 1)");
         due("JUST, that below lacks 1", 10, new String[] {"person(5, 1, 1)"}, "force(0, 0, 0, 1)");
         due("JUST, that below HAS it already: NONE", -1, FALLING, "force(0, 1, 3, 1)");
-        due("JUST, the lowest HAS it already: NONE", -1, Run.having(0, 0, 0, 0, 0, 0, 1), "force(0, 0, 3, 1)");
+        String[] lowest = {"person(0, 0, 10)", "press(0, 0, 99)", "rub(0, 0, 0)", "rub(0, 1, 0)", "rub(0, 2, 0)",
+            "rub(0, 3, 0)", "rub(0, 4, 0)"};
+        due("JUST, the lowest alone HAS it already: NONE", -1, lowest, "force(0, 0, 3, 1)");
+        due("JUST, the lowest alone HAS it no more", 40, lowest, "rub(0, 5, 0)", "force(0, 0, 3, 1)");
         due("JUST, one that is dead may HAVE it", 10, Run.having(0, 1, 0, 0, 0, 0, 0), "dies(0) x5",
             "force(0, 0, 5, 1)");
         due("JUST, they all HAVE it and none below", 1, FALLING, "force(0, 1, 4, 1)");
@@ -228,6 +231,8 @@ public final class TellingEdgeTest {
         String[] just = {"person(4, 0, 1) x2", "press(0, 3, 10)", "press(1, 3, 10)", "dies(0) x5"};
         pairs("LEAST at least", just, 1, 0);
         pairs("LEAST at least", Run.join(just, "ask(11)"), 0, -1);
+        pairs("as things stand now, whatever was paired before", Run.join(five, "paired(0, 1, -1)", "rub(1, 0, 0)",
+            "rub(1, 2, 0)", "rub(1, 3, 0)", "rub(1, 4, 0)"), 1, -1, -1, -1, -1, -1, 1);
     }
 
     private static void pairedOrder() {
