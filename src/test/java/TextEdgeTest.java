@@ -97,6 +97,10 @@ public final class TextEdgeTest {
         faults("one blank, not none", LAND, "dies0", 4);
         faults("one blank, not none", LAND, "press 011 1", 8);
         faults("one blank, not two", LAND, "press 0  1 1", 8);
+        faults("the first place, whatever comes behind it", LAND, "press0199 0 1", 5);
+        faults("the first place, whatever comes behind it", LAND, "rub0199 0 0", 3);
+        faults("the first place, whatever comes behind it", LAND, "person0199 0 1", 6);
+        faults("the first place, whatever comes behind it", LAND, "press 0 9#99", 8);
         faults("no blank ahead", LAND, " dies 0", 0);
         faults("no blank ahead", LAND, "dies 0; dies 0", 7);
         faults("no blank behind", LAND, "dies 0 ;dies 0", 6);
